@@ -150,7 +150,8 @@ public final class MusicBoxEditor {
             return NONE;
         }
         history.remember(box);
-        return script.runOn(box);
+        script.runPart(box, 0, script.commands, 0);
+        return script.executed;
     }
 
     public int errorCode() {
@@ -568,21 +569,24 @@ public final class MusicBoxEditor {
         }
     }
 
-    /** The tokens of a text, one at a time, and the first error among them. */
+    /** The tokens of a text, the one that is read next, and the first error among them. */
     private static final class Tokens {
         static final int END = 0;
         static final int WORD = 1;
         static final int NUMBER = 2;
         static final int SIGN = 3;
+        static final int SEPARATOR = 4;
 
         // Above every range of the grammar, and far enough from where an int wraps around.
         static final int HUGE = 1000000;
 
         final Bytes text;
-        int kind;
-        int start;
-        int end;
-        int value;
+        final int[] kinds = new int[TEXT_LIMIT + 1];
+        final int[] starts = new int[TEXT_LIMIT + 1];
+        final int[] ends = new int[TEXT_LIMIT + 1];
+        final int[] values = new int[TEXT_LIMIT + 1];
+        int count;
+        int here;
         int error;
         int errorAt;
 
@@ -591,53 +595,75 @@ public final class MusicBoxEditor {
             errorAt = NONE;
         }
 
-        void begin() {
+        /** Divides the text into tokens, the last of which is its end. */
+        void scan() {
             error = 0;
             errorAt = NONE;
-            end = 0;
-            advance();
+            count = 0;
+            here = 0;
+            int before = SEPARATOR;
+            for (int i = 0; i < text.length; i++) {
+                int kind = kindOf(text.at(i));
+                if (kind == SIGN || kind != SEPARATOR && kind != before) {
+                    putToken(kind, i);
+                }
+                if (kind != SEPARATOR) {
+                    lengthenToken(i);
+                }
+                before = kind;
+            }
+            putToken(END, text.length);
+        }
+
+        static int kindOf(int value) {
+            if (value == ' ' || value == '\n') {
+                return SEPARATOR;
+            }
+            if (value >= 'a' && value <= 'z') {
+                return WORD;
+            }
+            return value >= '0' && value <= '9' ? NUMBER : SIGN;
+        }
+
+        void putToken(int kind, int start) {
+            if (count >= 0 && count < kinds.length) {
+                kinds[count] = kind;
+                starts[count] = start;
+                ends[count] = start;
+                values[count] = 0;
+                count++;
+            }
+        }
+
+        /** Adds the byte at an index to the last token. */
+        void lengthenToken(int index) {
+            int last = count - 1;
+            if (last < 0 || last >= kinds.length) {
+                return;
+            }
+            ends[last] = index + 1;
+            if (kinds[last] == NUMBER) {
+                values[last] = Math.min(HUGE, values[last] * 10 + text.at(index) - '0');
+            }
         }
 
         void advance() {
-            start = end;
-            while (start < text.length && separates(text.at(start))) {
-                start++;
-            }
-            end = start;
-            value = 0;
-            if (start >= text.length) {
-                kind = END;
-            } else if (isLetter(text.at(start))) {
-                kind = WORD;
-                while (end < text.length && isLetter(text.at(end))) {
-                    end++;
-                }
-            } else if (isDigit(text.at(start))) {
-                kind = NUMBER;
-                while (end < text.length && isDigit(text.at(end))) {
-                    value = Math.min(HUGE, value * 10 + text.at(end) - '0');
-                    end++;
-                }
-            } else {
-                kind = SIGN;
-                end = start + 1;
+            if (here < count - 1) {
+                here++;
             }
         }
 
-        static boolean separates(int value) {
-            return value == ' ' || value == '\n';
+        int valueHere() {
+            return values[here];
         }
 
-        static boolean isLetter(int value) {
-            return value >= 'a' && value <= 'z';
-        }
-
-        static boolean isDigit(int value) {
-            return value >= '0' && value <= '9';
+        boolean atAnyWord() {
+            return kinds[here] == WORD;
         }
 
         boolean atWord(String word) {
-            if (kind != WORD || end - start != word.length()) {
+            int start = starts[here];
+            if (kinds[here] != WORD || ends[here] - start != word.length()) {
                 return false;
             }
             for (int i = 0; i < word.length(); i++) {
@@ -649,14 +675,22 @@ public final class MusicBoxEditor {
         }
 
         boolean atSign(char sign) {
-            return kind == SIGN && text.at(start) == sign;
+            return kinds[here] == SIGN && text.at(starts[here]) == sign;
         }
 
         /** Notes an error of the present token; the answer is always false. */
         boolean fail(int code) {
             error = code;
-            errorAt = start;
+            errorAt = starts[here];
             return false;
+        }
+
+        boolean takeWord(String word) {
+            if (!atWord(word)) {
+                return fail(SYNTAX);
+            }
+            advance();
+            return true;
         }
 
         boolean takeSign(char sign) {
@@ -669,10 +703,10 @@ public final class MusicBoxEditor {
 
         /** Tells whether the present token is a number in a range, and notes the error if not. */
         boolean checkNumber(int least, int most) {
-            if (kind != NUMBER) {
+            if (kinds[here] != NUMBER) {
                 return fail(SYNTAX);
             }
-            return value >= least && value <= most || fail(OUT_OF_RANGE);
+            return values[here] >= least && values[here] <= most || fail(OUT_OF_RANGE);
         }
 
         /** The number that the present token is, or NONE after an error. */
@@ -680,13 +714,13 @@ public final class MusicBoxEditor {
             if (!checkNumber(least, most)) {
                 return NONE;
             }
-            int taken = value;
+            int taken = values[here];
             advance();
             return taken;
         }
 
         boolean takeEnd() {
-            return kind == END || fail(SYNTAX);
+            return kinds[here] == END || fail(SYNTAX);
         }
     }
 
@@ -701,15 +735,28 @@ public final class MusicBoxEditor {
         }
 
         boolean readSetup() {
-            tokens.begin();
-            return readHead() && readTeeth() && readPins() && tokens.takeEnd();
+            tokens.scan();
+            if (!readHead() || !readTooth()) {
+                return false;
+            }
+            // One round more than there may be teeth, as the word of a 13th has an error of its own.
+            for (int i = 0; i < MOST_TEETH && tokens.atWord("tooth"); i++) {
+                if (!readTooth()) {
+                    return false;
+                }
+            }
+            for (int i = 0; i < TEXT_LIMIT && tokens.atWord("pin"); i++) {
+                if (!readPin()) {
+                    return false;
+                }
+            }
+            return tokens.takeEnd();
         }
 
         boolean readHead() {
-            if (!tokens.atWord("box")) {
-                return tokens.fail(SYNTAX);
+            if (!tokens.takeWord("box")) {
+                return false;
             }
-            tokens.advance();
             int steps = tokens.takeNumber(LEAST_STEPS, MOST_STEPS);
             if (steps == NONE) {
                 return false;
@@ -726,27 +773,13 @@ public final class MusicBoxEditor {
             return tokens.takeSign(';');
         }
 
-        boolean readTeeth() {
-            if (!readTooth()) {
-                return false;
-            }
-            // One round more than there may be teeth, as the word of a 13th has an error of its own.
-            for (int i = 0; i < MOST_TEETH && tokens.atWord("tooth"); i++) {
-                if (!readTooth()) {
-                    return false;
-                }
-            }
-            return true;
-        }
-
         boolean readTooth() {
-            if (!tokens.atWord("tooth")) {
-                return tokens.fail(SYNTAX);
-            }
-            if (target.toothCount >= MOST_TEETH) {
+            if (tokens.atWord("tooth") && target.toothCount >= MOST_TEETH) {
                 return tokens.fail(TOO_MANY);
             }
-            tokens.advance();
+            if (!tokens.takeWord("tooth")) {
+                return false;
+            }
             int pitch = tokens.takeNumber(0, MOST_PITCH);
             if (pitch == NONE) {
                 return false;
@@ -763,17 +796,10 @@ public final class MusicBoxEditor {
             return tokens.takeSign(';');
         }
 
-        boolean readPins() {
-            for (int i = 0; i < TEXT_LIMIT && tokens.atWord("pin"); i++) {
-                tokens.advance();
-                if (!readPin()) {
-                    return false;
-                }
-            }
-            return true;
-        }
-
         boolean readPin() {
+            if (!tokens.takeWord("pin")) {
+                return false;
+            }
             int tune = tokens.takeNumber(0, TUNES - 1);
             if (tune == NONE) {
                 return false;
@@ -785,10 +811,10 @@ public final class MusicBoxEditor {
             if (!tokens.checkNumber(0, target.roll.steps - 1)) {
                 return false;
             }
-            if (target.roll.hasPin(tune, tooth, tokens.value)) {
+            if (target.roll.hasPin(tune, tooth, tokens.valueHere())) {
                 return tokens.fail(PIN_TWICE);
             }
-            target.roll.putPin(tune, tooth, tokens.value);
+            target.roll.putPin(tune, tooth, tokens.valueHere());
             tokens.advance();
             return tokens.takeSign(';');
         }
@@ -805,48 +831,40 @@ public final class MusicBoxEditor {
         }
 
         boolean readScript() {
-            target.commands = 0;
-            tokens.begin();
+            target.begin();
+            tokens.scan();
             return readCommands(0) && tokens.takeEnd();
         }
 
-        /** The level is the number of brackets that are open. */
+        /** Reads commands with their semicolons; the level is the number of brackets that are open. */
         private boolean readCommands(int level) {
             // One round more than there may be commands, as the word of a 31st has an error of its own.
-            for (int i = 0; i <= Script.MOST_COMMANDS && tokens.kind == Tokens.WORD; i++) {
-                if (!readCommand(level)) {
+            for (int i = 0; i <= Script.MOST_COMMANDS && tokens.atAnyWord(); i++) {
+                int kind = kindHere();
+                if (kind == NONE) {
+                    return tokens.fail(SYNTAX);
+                }
+                if (target.commands >= Script.MOST_COMMANDS) {
+                    return tokens.fail(TOO_MANY);
+                }
+                tokens.advance();
+                int command = target.putCommand(kind, level);
+                boolean read = kind == Script.REPEAT ? readRepeat(command, level) : readArguments(command, kind);
+                if (!read || !tokens.takeSign(';')) {
                     return false;
                 }
             }
             return true;
         }
 
-        private boolean readCommand(int level) {
-            int kind = kindHere();
-            if (kind == NONE) {
-                return tokens.fail(SYNTAX);
-            }
-            if (target.commands >= Script.MOST_COMMANDS) {
-                return tokens.fail(TOO_MANY);
-            }
-            tokens.advance();
-            int command = target.putCommand(kind, level);
-            boolean read = kind == Script.REPEAT ? readRepeat(command, level) : readArguments(command, kind);
-            return read && tokens.takeSign(';');
-        }
-
         private boolean readRepeat(int command, int level) {
             if (!readArgument(command, 0, 0, Script.MOST_TIMES)) {
                 return false;
             }
-            if (!tokens.atSign('(')) {
-                return tokens.fail(SYNTAX);
-            }
-            if (level >= Script.MOST_LEVELS) {
+            if (tokens.atSign('(') && level >= Script.MOST_LEVELS) {
                 return tokens.fail(TOO_MANY);
             }
-            tokens.advance();
-            if (!readCommands(level + 1)) {
+            if (!tokens.takeSign('(') || !readCommands(level + 1)) {
                 return false;
             }
             target.closeRepeat(command);
@@ -919,6 +937,7 @@ public final class MusicBoxEditor {
             return true;
         }
 
+        /** Reads a direction, which is kept as the sign of the amount behind it. */
         boolean readDirection(int command, int place) {
             boolean up = tokens.atWord("up");
             if (!up && !tokens.atWord("down")) {
@@ -957,16 +976,23 @@ public final class MusicBoxEditor {
         int executed;
         boolean ended;
 
+        void begin() {
+            commands = 0;
+            executed = 0;
+            ended = false;
+        }
+
         /** The number of the new command, or NONE if there is no room for it. */
         int putCommand(int kind, int level) {
             if (commands < 0 || commands >= MOST_COMMANDS) {
                 return NONE;
             }
-            kinds[commands] = kind;
-            levels[commands] = level;
+            int command = commands;
             commands++;
-            partEnds[commands - 1] = commands;
-            return commands - 1;
+            kinds[command] = kind;
+            levels[command] = level;
+            partEnds[command] = commands;
+            return command;
         }
 
         void putArgument(int command, int place, int value) {
@@ -988,41 +1014,26 @@ public final class MusicBoxEditor {
             }
         }
 
-        int runOn(Box box) {
-            executed = 0;
-            ended = false;
-            runPart(box, 0, Math.min(commands, MOST_COMMANDS), 0);
-            return executed;
-        }
-
+        /** Runs the commands of one level and, through repeats, the deeper ones among them. */
         private void runPart(Box box, int from, int to, int level) {
-            if (level > MOST_LEVELS) {
-                return;
-            }
-            for (int command = from; command < to && !ended; command++) {
+            int end = level > MOST_LEVELS ? from : Math.min(to, MOST_COMMANDS);
+            for (int command = Math.max(0, from); command < end && !ended; command++) {
                 // What lies deeper belongs to a repeat before it, which has run it already.
                 if (levels[command] != level) {
                     continue;
                 }
-                if (kinds[command] != REPEAT) {
-                    runCommand(box, command);
-                    continue;
-                }
-                int times = argument(command, 0);
-                for (int i = 0; i < times && !ended; i++) {
-                    runPart(box, command + 1, partEnds[command], level + 1);
+                if (kinds[command] == REPEAT) {
+                    for (int i = argument(command, 0); i > 0 && !ended; i--) {
+                        runPart(box, command + 1, partEnds[command], level + 1);
+                    }
+                } else if (faultOf(box, command) == FINE) {
+                    execute(box, command);
+                    executed++;
+                    ended = executed >= MOST_EXECUTED;
+                } else {
+                    ended = true;
                 }
             }
-        }
-
-        private void runCommand(Box box, int command) {
-            if (faultOf(box, command) != FINE) {
-                ended = true;
-                return;
-            }
-            execute(box, command);
-            executed++;
-            ended = executed >= MOST_EXECUTED;
         }
 
         int faultOf(Box box, int command) {
@@ -1040,13 +1051,14 @@ public final class MusicBoxEditor {
                     return box.bendFault(first, second * third);
                 case MEND:
                     return box.toothFault(first);
+                case VANE:
+                    return rangeFault(first, 0, MOST_ANGLE);
                 case WIND:
                     return box.windFault(first);
-                case PLAY:
-                    return box.playFault(first);
+                case TUNE:
+                    return box.tuneFault(first);
                 default:
-                    // The grammar allows no angle and no tune that does not exist.
-                    return FINE;
+                    return box.playFault(first);
             }
         }
 
@@ -1122,7 +1134,8 @@ public final class MusicBoxEditor {
         }
 
         boolean hasPin(int tune, int tooth, int step) {
-            return ((row(tune, tooth) >>> step) & 1L) != 0L;
+            return tune >= 0 && tune < TUNES && tooth >= 0 && tooth < MOST_TEETH
+                    && ((rows[tune * MOST_TEETH + tooth] >>> step) & 1L) != 0L;
         }
 
         void putPin(int tune, int tooth, int step) {
@@ -1413,7 +1426,14 @@ public final class MusicBoxEditor {
 
         void playStep() {
             for (int tooth = 0; tooth < toothCount; tooth++) {
-                playTooth(tooth);
+                int sound = soundOf(tooth);
+                if (sound == NOTE) {
+                    notes++;
+                    teeth[tooth].pluck(NOTE_WEAR);
+                } else if (sound == SQUEAK) {
+                    squeaks++;
+                    teeth[tooth].pluck(SQUEAK_WEAR);
+                }
             }
             for (int tooth = 0; tooth < toothCount; tooth++) {
                 teeth[tooth].passStep();
@@ -1422,17 +1442,6 @@ public final class MusicBoxEditor {
                 turns--;
             }
             played++;
-        }
-
-        void playTooth(int tooth) {
-            int sound = soundOf(tooth);
-            if (sound == NOTE) {
-                notes++;
-                teeth[tooth].pluck(NOTE_WEAR);
-            } else if (sound == SQUEAK) {
-                squeaks++;
-                teeth[tooth].pluck(SQUEAK_WEAR);
-            }
         }
 
         int soundOf(int tooth) {
