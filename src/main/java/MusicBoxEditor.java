@@ -653,10 +653,6 @@ public final class MusicBoxEditor {
             }
         }
 
-        int valueHere() {
-            return values[here];
-        }
-
         boolean atAnyWord() {
             return kinds[here] == WORD;
         }
@@ -685,6 +681,13 @@ public final class MusicBoxEditor {
             return false;
         }
 
+        /** Notes an error of the token that was taken last; the answer is always false. */
+        boolean failTaken(int code) {
+            error = code;
+            errorAt = here > 0 ? starts[here - 1] : starts[here];
+            return false;
+        }
+
         boolean takeWord(String word) {
             if (!atWord(word)) {
                 return fail(SYNTAX);
@@ -701,22 +704,19 @@ public final class MusicBoxEditor {
             return true;
         }
 
-        /** Tells whether the present token is a number in a range, and notes the error if not. */
-        boolean checkNumber(int least, int most) {
-            if (kinds[here] != NUMBER) {
-                return fail(SYNTAX);
-            }
-            return values[here] >= least && values[here] <= most || fail(OUT_OF_RANGE);
-        }
-
         /** The number that the present token is, or NONE after an error. */
         int takeNumber(int least, int most) {
-            if (!checkNumber(least, most)) {
+            if (kinds[here] != NUMBER) {
+                fail(SYNTAX);
                 return NONE;
             }
-            int taken = values[here];
+            int number = values[here];
+            if (number < least || number > most) {
+                fail(OUT_OF_RANGE);
+                return NONE;
+            }
             advance();
-            return taken;
+            return number;
         }
 
         boolean takeEnd() {
@@ -746,7 +746,8 @@ public final class MusicBoxEditor {
                 }
             }
             for (int i = 0; i < TEXT_LIMIT && tokens.atWord("pin"); i++) {
-                if (!readPin()) {
+                tokens.advance();
+                if (!readPlace()) {
                     return false;
                 }
             }
@@ -796,10 +797,8 @@ public final class MusicBoxEditor {
             return tokens.takeSign(';');
         }
 
-        boolean readPin() {
-            if (!tokens.takeWord("pin")) {
-                return false;
-            }
+        /** Reads what stands behind the word of a pin. */
+        boolean readPlace() {
             int tune = tokens.takeNumber(0, TUNES - 1);
             if (tune == NONE) {
                 return false;
@@ -808,14 +807,14 @@ public final class MusicBoxEditor {
             if (tooth == NONE) {
                 return false;
             }
-            if (!tokens.checkNumber(0, target.roll.steps - 1)) {
+            int step = tokens.takeNumber(0, target.roll.steps - 1);
+            if (step == NONE) {
                 return false;
             }
-            if (target.roll.hasPin(tune, tooth, tokens.valueHere())) {
-                return tokens.fail(PIN_TWICE);
+            if (target.roll.hasPin(tune, tooth, step)) {
+                return tokens.failTaken(PIN_TWICE);
             }
-            target.roll.putPin(tune, tooth, tokens.valueHere());
-            tokens.advance();
+            target.roll.putPin(tune, tooth, step);
             return tokens.takeSign(';');
         }
     }

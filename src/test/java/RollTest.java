@@ -111,6 +111,8 @@ public final class RollTest {
         due.same("two rests of three", x.longestRest(0), 3);
         x.removePin(1, 1, 9);
         due.same("no pins", x.longestRest(1), 10);
+        MusicBoxEditor z = Due.box("box 20 2 0;tooth 1 3 10;pin 0 0 9;pin 0 0 17;");
+        due.same("far behind the end", z.longestRest(0), 11);
         MusicBoxEditor y = Due.box("box 4 2 0;tooth 1 3 10;tooth 2 2 10;pin 0 0 0;pin 0 0 1;pin 0 1 2;pin 0 1 3;");
         due.same("no rest", y.longestRest(0), 0);
     }

@@ -5,6 +5,8 @@ public final class ScriptTest {
     public static void main(String[] args) {
         commands();
         change();
+        everyTooth();
+        oneAfterAnother();
         endsBeforeFault();
         repeat();
         fortyCommands();
@@ -80,6 +82,34 @@ public final class ScriptTest {
         due.same("is a change", x.undoCount(), 1);
         due.same("a script that ends at once", Due.script(x, "pin 0 0 0;"), 0);
         due.same("is a change", x.undoCount(), 2);
+    }
+
+    private static void everyTooth() {
+        StringBuilder twelve = new StringBuilder("box 64 1 0;");
+        for (int i = 0; i < 12; i++) {
+            twelve.append("tooth 5 3 30;");
+        }
+        MusicBoxEditor x = Due.box(twelve.toString());
+        due.same("the last of all", Due.script(x, "pin 2 11 63;gap 11 9;bend 11 up 3;"), 3);
+        due.same("pin", x.isPin(2, 11, 63), true);
+        due.same("gap", x.gap(11), 9);
+        due.same("bend", x.bendOf(11), 3);
+        due.same("the last of all", Due.script(x, "unpin 2 11 63;mend 11;"), 2);
+        due.same("pin", x.isPin(2, 11, 63), false);
+        due.same("bend", x.bendOf(11), 0);
+    }
+
+    private static void oneAfterAnother() {
+        MusicBoxEditor x = new MusicBoxEditor();
+        due.same("a script that ends at a fault", Due.script(x, "vane 1;wind 20;vane 2;"), 1);
+        due.same("the next one", Due.script(x, "vane 3;vane 4;"), 2);
+        due.same("vane", x.vane(), 4);
+        due.same("a script of 40", Due.script(x, "repeat 20(repeat 20(vane 5;););"), 40);
+        due.same("the next one", Due.script(x, "repeat 2(vane 6;);"), 2);
+        due.same("a wrong one", Due.script(x, "vane 7;vane 8;vane;"), -1);
+        due.same("the next one", Due.script(x, "vane 9;"), 1);
+        due.same("an empty one", x.runScript(), 0);
+        due.same("changes", x.undoCount(), 6);
     }
 
     private static void endsBeforeFault() {

@@ -67,6 +67,8 @@ public final class SetupTest {
         error("box 8 5 40;\u00e9tooth 5 3 30;", 1, 11);
         error("box -8 5 40;tooth 5 3 30;", 1, 4);
         error("boxtooth 8 5 40;", 1, 0);
+        error("boxz 8 5 40;", 1, 0);
+        error("boxa 8 5 40;", 1, 0);
         error("box 8 5 40;tooths 5 3 30;", 1, 11);
         error("box 8 5 40;toot 5 3 30;", 1, 11);
         error("box 8 5 40;to oth 5 3 30;", 1, 11);
@@ -158,6 +160,7 @@ public final class SetupTest {
         x.save(0);
         x.save(1);
         x.writeComb();
+        x.notesIn(9);
         Due.write(x, "box 6 7 10;tooth 20 1 10;pin 0 0 0;");
         due.same("load", x.load(), 0);
         due.same("undo count", x.undoCount(), 0);

@@ -77,7 +77,11 @@ public final class TextTest {
         due.badState("two over 799", () -> x.append(0, 0, 0, 0, 0x01000001));
         due.same("still 799", x.append(0, 0, 0, 0, 0), 799);
         due.same("one over 799", x.append(0, 0, 0, 0, 0x00010000), 800);
-        due.badState("one over 800", () -> x.append(0, 0, 1, 0, 0));
+        due.badState("one over 800 in a", () -> x.append(1, 0, 0, 0, 0));
+        due.badState("one over 800 in b", () -> x.append(0, 1, 0, 0, 0));
+        due.badState("one over 800 in c", () -> x.append(0, 0, 1, 0, 0));
+        due.badState("one over 800 in d", () -> x.append(0, 0, 0, 1, 0));
+        due.badState("one over 800 in e", () -> x.append(0, 0, 0, 0, 1));
         due.same("none over 800", x.append(0, 0, 0, 0, 0), 800);
     }
 
