@@ -969,6 +969,7 @@ public final class MusicBoxEditor {
 
         final int[] kinds = new int[MOST_COMMANDS];
         final int[] levels = new int[MOST_COMMANDS];
+        /** For each repeat the number of the command behind its bracket. */
         final int[] partEnds = new int[MOST_COMMANDS];
         final int[] arguments = new int[MOST_COMMANDS * ARGUMENTS];
         int commands;
@@ -987,10 +988,9 @@ public final class MusicBoxEditor {
                 return NONE;
             }
             int command = commands;
-            commands++;
             kinds[command] = kind;
             levels[command] = level;
-            partEnds[command] = commands;
+            commands++;
             return command;
         }
 

@@ -160,7 +160,8 @@ public final class SetupTest {
         x.save(0);
         x.save(1);
         x.writeComb();
-        x.notesIn(9);
+        x.selectTune(0);
+        due.same("a forecast ahead of load", x.squeaksIn(30) > 0, true);
         Due.write(x, "box 6 7 10;tooth 20 1 10;pin 0 0 0;");
         due.same("load", x.load(), 0);
         due.same("undo count", x.undoCount(), 0);
