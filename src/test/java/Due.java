@@ -4,25 +4,32 @@ final class Due {
 
     private int wrong;
     private int asked;
+    private String sentence = "";
 
     interface Call {
         void run();
     }
 
-    void same(String what, long got, long want) {
+    /** What is asked from here on is about this sentence of the document, or this part of one. */
+    void about(String newSentence) {
+        sentence = "\"" + newSentence + "\": ";
+    }
+
+    private void tell(boolean fine, String what) {
         asked++;
-        if (got != want) {
+        if (!fine) {
             wrong++;
-            System.out.println(what + " answered " + got + ", due is " + want);
+            System.out.println(sentence + what);
         }
     }
 
+    void same(String what, long got, long want) {
+        tell(got == want, what + " answered " + got + ", due is " + want);
+    }
+
     void same(String what, double got, double want) {
-        asked++;
-        if (Double.doubleToLongBits(got) != Double.doubleToLongBits(want)) {
-            wrong++;
-            System.out.println(what + " answered " + got + ", due is " + want);
-        }
+        tell(Double.doubleToLongBits(got) == Double.doubleToLongBits(want),
+                what + " answered " + got + ", due is " + want);
     }
 
     void same(String what, boolean got, boolean want) {
@@ -30,27 +37,19 @@ final class Due {
     }
 
     void same(String what, String got, String want) {
-        asked++;
-        if (!got.equals(want)) {
-            wrong++;
-            System.out.println(what + " answered \"" + got + "\", due is \"" + want + "\"");
-        }
+        tell(got.equals(want), what + " answered \"" + got + "\", due is \"" + want + "\"");
     }
 
     /** The call must throw just this class, not one above or below it. */
     void thrown(String what, Class<? extends RuntimeException> want, Call call) {
-        asked++;
         Class<?> got = null;
         try {
             call.run();
         } catch (RuntimeException e) {
             got = e.getClass();
         }
-        if (got != want) {
-            wrong++;
-            System.out.println(what + " threw " + (got == null ? "nothing" : got.getSimpleName())
-                    + ", due is " + want.getSimpleName());
-        }
+        tell(got == want, what + " threw " + (got == null ? "nothing" : got.getSimpleName())
+                + ", due is " + want.getSimpleName());
     }
 
     void noSuch(String what, Call call) {
@@ -101,8 +100,10 @@ final class Due {
 
     static String output(MusicBoxEditor x) {
         StringBuilder output = new StringBuilder();
-        for (int i = 0; x.outputByte(i) != MusicBoxEditor.NONE; i++) {
-            output.append((char) x.outputByte(i));
+        int next = x.outputByte(0);
+        while (next != MusicBoxEditor.NONE && output.length() < 100) {
+            output.append((char) next);
+            next = x.outputByte(output.length());
         }
         return output.toString();
     }
@@ -115,25 +116,67 @@ final class Due {
         return pins.toString();
     }
 
-    /** Every answer that undo, save and restore are about, in one text. */
+    /**
+     * Every answer that undo, save and restore are about, in one text. It asks 13 times, eight times for a
+     * tooth and three times for a step: an object answers 512 calls in all.
+     */
     static String state(MusicBoxEditor x) {
+        int steps = x.stepCount();
+        int teeth = x.toothCount();
         StringBuilder state = new StringBuilder();
-        state.append("steps ").append(x.stepCount()).append(" tune ").append(x.selectedTune());
+        state.append("steps ").append(steps).append(" tune ").append(x.selectedTune());
         state.append(" at ").append(x.position()).append(" turns ").append(x.turnsLeft());
         state.append(" vane ").append(x.vane()).append(" tempo ").append(x.tempo());
         state.append(" notes ").append(x.noteCount()).append(" squeaks ").append(x.squeakCount());
         state.append(" played ").append(x.stepsPlayed()).append(" broken ").append(x.brokenTeeth());
         state.append(" contradictions ").append(x.contradictions()).append(" left ").append(x.stepsLeft());
-        for (int tooth = 0; tooth < x.toothCount(); tooth++) {
+        for (int tooth = 0; tooth < teeth; tooth++) {
             state.append("\n tooth ").append(x.soundingPitch(tooth)).append(' ').append(x.bendOf(tooth));
             state.append(' ').append(x.gap(tooth)).append(' ').append(x.wear(tooth)).append(' ');
             state.append(x.silence(tooth)).append(' ').append(x.isBroken(tooth)).append(' ');
             state.append(x.nextSound(tooth)).append(' ').append(x.stepsUntilBroken(tooth));
-            for (int tune = 0; tune < 3; tune++) {
-                state.append(' ').append(pins(x, tune, tooth));
+        }
+        for (int tune = 0; tune < 3; tune++) {
+            state.append("\n tune");
+            for (int step = 0; step < steps; step++) {
+                state.append(' ').append(x.chord(tune, step));
             }
         }
         return state.toString();
+    }
+
+    /**
+     * All that can be seen of an object, the changes that can be undone and the slots too; it uses the
+     * object up. Two objects with the same answers behave alike from here on.
+     */
+    static String world(MusicBoxEditor x) {
+        StringBuilder world = new StringBuilder(state(x));
+        world.append("\n error ").append(x.errorCode()).append(" at ").append(x.errorPosition());
+        world.append("\n output ").append(output(x));
+        world.append("\n text of ").append(x.append(0, 0, 0, 0, 0));
+        int undos = x.undoCount();
+        for (int i = 0; i < undos; i++) {
+            world.append("\n undo to ").append(x.undo()).append(": ").append(state(x));
+        }
+        for (int slot = 0; slot < 2; slot++) {
+            world.append("\n slot ").append(slot).append(": ");
+            try {
+                world.append(x.restore(slot)).append(state(x));
+            } catch (java.util.NoSuchElementException e) {
+                world.append("empty");
+            }
+        }
+        world.append("\n the text runs ").append(x.runScript()).append(' ').append(x.errorPosition());
+        world.append(" and leaves ").append(x.vane());
+        return world.toString();
+    }
+
+    static String times(int times, String part) {
+        StringBuilder all = new StringBuilder();
+        for (int i = 0; i < times; i++) {
+            all.append(part);
+        }
+        return all.toString();
     }
 
     void end() {
