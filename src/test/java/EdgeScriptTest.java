@@ -1,6 +1,7 @@
 /** The edges of promise 5 and of the grammar of a script, sentence by sentence. */
 public final class EdgeScriptTest {
     private static final Due due = new Due();
+    private static final String NEW_BOX = Due.state(new MusicBoxEditor());
     private static final String[] COMMANDS = {"pin", "unpin", "gap", "bend", "mend", "vane", "wind", "tune", "play", "repeat"};
     private static final String[] COMMANDS_AND_END = {"pin", "unpin", "gap", "bend", "mend", "vane", "wind", "tune", "play",
         "repeat", ""};
@@ -35,11 +36,16 @@ public final class EdgeScriptTest {
     }
 
     private static void read(String script, int code, int position) {
-        MusicBoxEditor x = Due.box("box 8 5 40;tooth 10 3 30;tooth 14 2 12;tooth 17 4 100;");
+        MusicBoxEditor x = new MusicBoxEditor();
         int answer = Due.script(x, script);
         due.same("script " + script + " is refused", answer == -1, code != 0);
         due.same("errorCode of " + script, x.errorCode(), code);
         due.same("errorPosition in " + script, x.errorPosition(), position);
+        due.same("the text behind " + script, x.append(0, 0, 0, 0, 0), 0);
+        due.same("undoCount behind " + script, x.undoCount(), code == 0 ? 1 : 0);
+        if (code != 0) {
+            due.same("the box behind " + script, Due.state(x), NEW_BOX);
+        }
     }
 
     private static void runs(String script, int executed) {

@@ -4,6 +4,7 @@ public final class EdgeSetupTest {
     private static final String HEAD = "box 8 5 40;";
     private static final String TOOTH = "tooth 5 3 30;";
     private static final String ONE = HEAD + TOOTH;
+    private static final String NEW_BOX = Due.state(new MusicBoxEditor());
 
     public static void main(String[] args) {
         wholeGrammar();
@@ -31,6 +32,10 @@ public final class EdgeSetupTest {
         due.same("load of " + setup, x.load(), code);
         due.same("errorCode of " + setup, x.errorCode(), code);
         due.same("errorPosition in " + setup, x.errorPosition(), position);
+        due.same("the text behind " + setup, x.append(0, 0, 0, 0, 0), 0);
+        if (code != 0) {
+            due.same("the box behind " + setup, Due.state(x), NEW_BOX);
+        }
     }
 
     /** No change of a number makes one of these pins the other one, or takes it from the roll or the comb. */
@@ -250,7 +255,7 @@ public final class EdgeSetupTest {
 
     private static void boxStaysAsItIs() {
         due.about("With an error the box stays as it is");
-        String[] wrong = {"", "zzz", "box 3", "box 64 20 90;", "box 64 20 90;tooth 1 1 10", "box 64 20 90;tooth 1 1 10;;",
+        String[] wrong = {"", "zzz", TOOTH, TOOTH + "pin 0 0 3;", "8 5 40;" + TOOTH, "box 3", "box 64 20 90;", "box 64 20 90;tooth 1 1 10", "box 64 20 90;tooth 1 1 10;;",
             "box 4 1 0;tooth 1 1 10;pin 0 0 0;pin 0 0 1;pin 0 0 0;", "box 9 9 9;" + Due.times(13, TOOTH),
             "box 4 1 0;tooth 1 1 10;pin 0 0 0;zzz"};
         for (String text : wrong) {

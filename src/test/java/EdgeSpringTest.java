@@ -293,15 +293,15 @@ public final class EdgeSpringTest {
     private static void lastOfTheCalls() {
         due.about("An object is used for at most 512 calls after it has been made");
         MusicBoxEditor x = Due.box("box 64 20 0;tooth 5 1 999;pin 0 0 0;pin 0 0 2;");
-        int calls = 3; // two appends of the setup, load
+        int calls = 4; // three appends of the setup, load
         int played = 0;
         while (calls < 510) {
             played += x.play(2);
             calls++;
         }
-        due.same("the steps of 507 calls", played, 1014);
-        due.same("the 511th call", x.stepsPlayed(), 1014);
-        due.same("the 512th call", x.noteCount(), 2 * (1014 / 64) + 2);
+        due.same("the steps of 506 calls", played, 1012);
+        due.same("the 511th call", x.stepsPlayed(), 1012);
+        due.same("the 512th call", x.noteCount(), 2 * (1012 / 64) + 2);
         MusicBoxEditor y = new MusicBoxEditor();
         for (int i = 1; i <= 510; i++) {
             y.setVane(i % 91);

@@ -148,6 +148,26 @@ public final class EdgeTextTest {
         due.same("9 over 791", x.append(0x20202020, 0x20202020, 0x20000000, 0, 0), 800);
         due.same("only the first command", x.runScript(), 1);
         due.same("vane", x.vane(), 7);
+        for (int parameter = 0; parameter < 5; parameter++) {
+            for (int bytes = 1; bytes <= 4; bytes++) {
+                bytesIn(parameter, bytes);
+            }
+        }
+    }
+
+    /** So many bytes in one parameter are taken if the buffer has room for just as many, and not if it has one less. */
+    private static void bytesIn(int parameter, int bytes) {
+        MusicBoxEditor x = new MusicBoxEditor();
+        Due.write(x, Due.times(801 - bytes, " "));
+        int[] words = new int[5];
+        for (int i = 0; i < bytes; i++) {
+            words[parameter] |= 0x20 << 8 * i;
+        }
+        String what = bytes + " bytes in parameter " + parameter;
+        due.badState(what + ", one over", () -> x.append(words[0], words[1], words[2], words[3], words[4]));
+        due.same("the length behind " + what, x.append(0, 0, 0, 0, 0), 801 - bytes);
+        x.truncate(800 - bytes);
+        due.same(what, x.append(words[0], words[1], words[2], words[3], words[4]), 800);
     }
 
     private static void truncateRange() {
