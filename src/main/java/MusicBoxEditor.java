@@ -469,7 +469,7 @@ public final class MusicBoxEditor {
 
     public int writeComb() {
         output.length = 0;
-        for (int tooth = 0; tooth < box.toothCount; tooth++) {
+        for (int tooth = 0; tooth < box.toothCount && tooth < MOST_TEETH; tooth++) {
             if (tooth > 0) {
                 output.put(' ');
             }
@@ -653,15 +653,20 @@ public final class MusicBoxEditor {
             }
         }
 
+        /** All rows of tokens have the same length. */
+        boolean atKind(int kind) {
+            return here >= 0 && here < kinds.length && kinds[here] == kind;
+        }
+
         boolean atAnyWord() {
-            return kinds[here] == WORD;
+            return atKind(WORD);
         }
 
         boolean atWord(String word) {
-            int start = starts[here];
-            if (kinds[here] != WORD || ends[here] - start != word.length()) {
+            if (!atKind(WORD) || ends[here] - starts[here] != word.length()) {
                 return false;
             }
+            int start = starts[here];
             for (int i = 0; i < word.length(); i++) {
                 if (text.at(start + i) != word.charAt(i)) {
                     return false;
@@ -671,20 +676,20 @@ public final class MusicBoxEditor {
         }
 
         boolean atSign(char sign) {
-            return kinds[here] == SIGN && text.at(starts[here]) == sign;
+            return atKind(SIGN) && text.at(starts[here]) == sign;
         }
 
         /** Notes an error of the present token; the answer is always false. */
         boolean fail(int code) {
             error = code;
-            errorAt = starts[here];
+            errorAt = here >= 0 && here < starts.length ? starts[here] : NONE;
             return false;
         }
 
         /** Notes an error of the token that was taken last; the answer is always false. */
         boolean failTaken(int code) {
             error = code;
-            errorAt = here > 0 ? starts[here - 1] : starts[here];
+            errorAt = here >= 1 && here <= starts.length ? starts[here - 1] : NONE;
             return false;
         }
 
@@ -706,7 +711,7 @@ public final class MusicBoxEditor {
 
         /** The number that the present token is, or NONE after an error. */
         int takeNumber(int least, int most) {
-            if (kinds[here] != NUMBER) {
+            if (!atKind(NUMBER)) {
                 fail(SYNTAX);
                 return NONE;
             }
@@ -720,7 +725,7 @@ public final class MusicBoxEditor {
         }
 
         boolean takeEnd() {
-            return kinds[here] == END || fail(SYNTAX);
+            return atKind(END) || fail(SYNTAX);
         }
     }
 
@@ -1337,7 +1342,7 @@ public final class MusicBoxEditor {
         }
 
         int toothFault(int tooth) {
-            return tooth < 0 || tooth >= toothCount ? NO_SUCH : FINE;
+            return tooth < 0 || tooth >= toothCount || tooth >= MOST_TEETH ? NO_SUCH : FINE;
         }
 
         int stepFault(int step) {
@@ -1363,7 +1368,7 @@ public final class MusicBoxEditor {
         }
 
         int movePinsFault(int tune, int by) {
-            for (int tooth = 0; tooth < toothCount; tooth++) {
+            for (int tooth = 0; tooth < toothCount && tooth < MOST_TEETH; tooth++) {
                 if (roll.row(tune, tooth) != 0L && toothFault(tooth + by) != FINE) {
                     return BAD_STATE;
                 }
@@ -1424,7 +1429,7 @@ public final class MusicBoxEditor {
         }
 
         void playStep() {
-            for (int tooth = 0; tooth < toothCount; tooth++) {
+            for (int tooth = 0; tooth < toothCount && tooth < MOST_TEETH; tooth++) {
                 int sound = soundOf(tooth);
                 if (sound == NOTE) {
                     notes++;
@@ -1434,7 +1439,7 @@ public final class MusicBoxEditor {
                     teeth[tooth].pluck(SQUEAK_WEAR);
                 }
             }
-            for (int tooth = 0; tooth < toothCount; tooth++) {
+            for (int tooth = 0; tooth < toothCount && tooth < MOST_TEETH; tooth++) {
                 teeth[tooth].passStep();
             }
             if (roll.goOn()) {
@@ -1467,7 +1472,7 @@ public final class MusicBoxEditor {
 
         int closePinsOf(int tune) {
             int close = 0;
-            for (int tooth = 0; tooth < toothCount; tooth++) {
+            for (int tooth = 0; tooth < toothCount && tooth < MOST_TEETH; tooth++) {
                 for (int step = 0; step < roll.steps; step++) {
                     if (closePinAt(tune, tooth, step)) {
                         close++;
@@ -1479,7 +1484,7 @@ public final class MusicBoxEditor {
 
         int brokenCount() {
             int broken = 0;
-            for (int tooth = 0; tooth < toothCount; tooth++) {
+            for (int tooth = 0; tooth < toothCount && tooth < MOST_TEETH; tooth++) {
                 if (teeth[tooth].brokenNow()) {
                     broken++;
                 }
@@ -1489,7 +1494,7 @@ public final class MusicBoxEditor {
 
         int pitchSum(int tune) {
             int sum = 0;
-            for (int tooth = 0; tooth < toothCount; tooth++) {
+            for (int tooth = 0; tooth < toothCount && tooth < MOST_TEETH; tooth++) {
                 sum += Long.bitCount(roll.row(tune, tooth)) * teeth[tooth].pitchNow();
             }
             return sum;
@@ -1497,7 +1502,7 @@ public final class MusicBoxEditor {
 
         int unexplainedWear() {
             int worn = replacedWear;
-            for (int tooth = 0; tooth < toothCount; tooth++) {
+            for (int tooth = 0; tooth < toothCount && tooth < MOST_TEETH; tooth++) {
                 worn += teeth[tooth].wear;
             }
             return Math.abs(worn - (notes * NOTE_WEAR + squeaks * SQUEAK_WEAR + bends * BEND_WEAR));
@@ -1505,7 +1510,7 @@ public final class MusicBoxEditor {
 
         int brokenTooEarly() {
             int early = 0;
-            for (int tooth = 0; tooth < toothCount; tooth++) {
+            for (int tooth = 0; tooth < toothCount && tooth < MOST_TEETH; tooth++) {
                 if (teeth[tooth].brokenNow() && teeth[tooth].wear < teeth[tooth].strength) {
                     early++;
                 }
@@ -1533,7 +1538,9 @@ public final class MusicBoxEditor {
         }
 
         void remember(Box box) {
-            kept[next].copyFrom(box);
+            if (next >= 0 && next < MOST_CHANGES) {
+                kept[next].copyFrom(box);
+            }
             next = next < MOST_CHANGES - 1 ? next + 1 : 0;
             count = Math.min(MOST_CHANGES, count + 1);
         }
@@ -1543,7 +1550,9 @@ public final class MusicBoxEditor {
                 return;
             }
             next = next > 0 ? next - 1 : MOST_CHANGES - 1;
-            box.copyFrom(kept[next]);
+            if (next >= 0 && next < MOST_CHANGES) {
+                box.copyFrom(kept[next]);
+            }
             count--;
         }
     }
