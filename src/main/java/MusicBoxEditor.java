@@ -265,7 +265,8 @@ public final class MusicBoxEditor {
     }
 
     public double secondsPerStep() {
-        return 60.0 / (double) box.stepsPerMinute();
+        int stepsPerMinute = box.stepsPerMinute();
+        return stepsPerMinute < 1 ? 0.0 : 60.0 / (double) stepsPerMinute;
     }
 
     public long secondsPerStepBits() {
@@ -1026,12 +1027,13 @@ public final class MusicBoxEditor {
                 if (levels[command] != level) {
                     continue;
                 }
-                if (kinds[command] == REPEAT) {
+                int kind = kinds[command];
+                if (kind == REPEAT) {
                     for (int i = argument(command, 0); i > 0 && !ended; i--) {
                         runPart(box, command + 1, partEnds[command], level + 1);
                     }
-                } else if (faultOf(box, command) == FINE) {
-                    execute(box, command);
+                } else if (faultOf(box, kind, command) == FINE) {
+                    execute(box, kind, command);
                     executed++;
                     ended = executed >= MOST_EXECUTED;
                 } else {
@@ -1040,11 +1042,11 @@ public final class MusicBoxEditor {
             }
         }
 
-        int faultOf(Box box, int command) {
+        int faultOf(Box box, int kind, int command) {
             int first = argument(command, 0);
             int second = argument(command, 1);
             int third = argument(command, 2);
-            switch (kinds[command]) {
+            switch (kind) {
                 case PIN:
                     return box.putPinFault(first, second, third);
                 case UNPIN:
@@ -1066,11 +1068,11 @@ public final class MusicBoxEditor {
             }
         }
 
-        void execute(Box box, int command) {
+        void execute(Box box, int kind, int command) {
             int first = argument(command, 0);
             int second = argument(command, 1);
             int third = argument(command, 2);
-            switch (kinds[command]) {
+            switch (kind) {
                 case PIN:
                     box.roll.putPin(first, second, third);
                     break;
